@@ -292,11 +292,7 @@ public final class StoneHeld {
         if (what == 0) {
             return Integer.bitCount(strengths);
         }
-        if (strengths == 0) {
-            return NONE;
-        }
-        return what == 1 ? Integer.numberOfTrailingZeros(strengths)
-                : 31 - Integer.numberOfLeadingZeros(strengths);
+        return what == 1 ? leastBit(strengths) : greatestBit(strengths);
     }
 
     public int tell(int i) {
@@ -571,6 +567,24 @@ public final class StoneHeld {
             lesser = rest;
         }
         return greater;
+    }
+
+    private static int leastBit(int bits) {
+        for (int k = 0; k <= MOST_STRENGTH; k++) {
+            if ((bits >> k & 1) == 1) {
+                return k;
+            }
+        }
+        return NONE;
+    }
+
+    private static int greatestBit(int bits) {
+        for (int k = MOST_STRENGTH; k >= 0; k--) {
+            if ((bits >> k & 1) == 1) {
+                return k;
+            }
+        }
+        return NONE;
     }
 
     private static boolean isWithin(int n, int least, int most) {
