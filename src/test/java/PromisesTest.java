@@ -2,16 +2,7 @@
  * Each promise of the document by itself: ordinary calls, the edges that it names, wrong inputs.
  * The answers due were worked out from the document by hand.
  */
-public final class PromisesTest {
-    private static final int NONE = -1;
-    private static final int BAD = -2;
-    private static final int NO = -3;
-    private static final int FULL = -4;
-    private static final int LEAST = Integer.MIN_VALUE;
-    private static final int GREATEST = Integer.MAX_VALUE;
-
-    private static int wrong = 0;
-
+public final class PromisesTest extends Checks {
     public static void main(String[] args) {
         newObject();
         people();
@@ -58,45 +49,7 @@ public final class PromisesTest {
         digest();
         constants();
         beyond();
-        System.out.println(wrong == 0 ? "promises: all hold" : "promises: " + wrong + " answers are wrong");
-        if (wrong != 0) {
-            System.exit(1);
-        }
-    }
-
-    private static void due(String call, long got, long want) {
-        if (got != want) {
-            wrong++;
-            System.out.println(call + " answered " + got + ", due is " + want);
-        }
-    }
-
-    private static void tell(StoneHeld x, String text) {
-        x.clear();
-        for (int k = 0; k < text.length(); k++) {
-            x.type(text.charAt(k));
-        }
-    }
-
-    private static StoneHeld told(String text) {
-        StoneHeld x = new StoneHeld();
-        tell(x, text);
-        due("read of " + text, x.read() > 0 ? 1 : 0, 1);
-        return x;
-    }
-
-    private static long mix(long... values) {
-        long h = 1759;
-        for (long v : values) {
-            h = 31 * h + v;
-        }
-        return h;
-    }
-
-    private static void refused(StoneHeld x, String what, int bad, int no, int full) {
-        due(what + ": status(0)", x.status(0), bad);
-        due(what + ": status(1)", x.status(1), no);
-        due(what + ": status(2)", x.status(2), full);
+        end("promises");
     }
 
     private static void newObject() {
@@ -110,7 +63,7 @@ public final class PromisesTest {
         due("1 from(0)", x.from(0), NO);
         due("1 from(1)", x.from(1), NO);
         due("1 read()", x.read(), -10);
-        refused(x, "1", 0, 3, 0);
+        counted(x, "1", 0, 3, 0);
     }
 
     private static void people() {
@@ -127,7 +80,7 @@ public final class PromisesTest {
         due("2 digest()", x.digest(), mix(0, 0, 0, 0, 0, 0, 0, 0, 0, x.count(9), x.part(0), x.part(1)));
         due("2 the text stays", x.count(9), 53);
         due("2 the fraction stays", x.part(0), 1);
-        refused(x, "2", 1, 1, 0);
+        counted(x, "2", 1, 1, 0);
         due("2 undo()", x.undo(), NO);
         due("2 people() again", x.people(), 0);
         due("2 the image stays", x.from(1), 1);
@@ -152,7 +105,7 @@ public final class PromisesTest {
         due("3 the 8th", x.thing(0, 1), FULL);
         due("3 bad goes first", x.thing(0, 31), BAD);
         due("3 count(2)", x.count(2), 7);
-        refused(x, "3", 6, 0, 1);
+        counted(x, "3", 6, 0, 1);
         StoneHeld y = told("people;thing 0 9;one 0 1 0;");
         y.owns(0, 0);
         y.thing(0, 0);
@@ -176,7 +129,7 @@ public final class PromisesTest {
         due("4 bad goes first", x.one(0, 1, 100), BAD);
         due("4 count(0)", x.count(0), 7);
         due("4 count(1)", x.count(1), 7);
-        refused(x, "4", 7, 0, 1);
+        counted(x, "4", 7, 0, 1);
         StoneHeld y = new StoneHeld();
         y.years(1);
         due("4 to be undone", y.count(8), 1);
@@ -195,7 +148,7 @@ public final class PromisesTest {
         due("5 the 151st", x.type(32), FULL);
         due("5 bad goes first", x.type(128), BAD);
         due("5 count(9)", x.count(9), 150);
-        refused(x, "5", 3, 0, 1);
+        counted(x, "5", 3, 0, 1);
     }
 
     private static void clear() {
@@ -226,7 +179,7 @@ public final class PromisesTest {
         due("7 undo()", x.undo(), NO);
         due("7 the image", x.from(0), 1);
         due("7 the image's own", x.of(0, 3), 0);
-        refused(x, "7", 1, 1, 0);
+        counted(x, "7", 1, 1, 0);
         due("7 people alone", told("people;").count(0), 0);
         StoneHeld y = told("people;one 0 1 0;thing 0 30;own 0 0;years 60;years 99;");
         due("7 year 159", y.count(4), 159);
@@ -254,7 +207,7 @@ public final class PromisesTest {
         due("7 fault of '" + text + "'", x.read(), -10 - place);
         due("7 all stays behind '" + text + "'", x.digest(), before);
         due("7 undo stays behind '" + text + "'", x.undo(), 0);
-        refused(x, "7 a fault is no refusal", 0, 0, 0);
+        counted(x, "7 a fault is no refusal", 0, 0, 0);
     }
 
     private static void readFaults() {
@@ -332,7 +285,7 @@ public final class PromisesTest {
         x.years(1);
         due("8 he is lost, and it is nobody's", x.owns(0, 0), NO);
         due("8 bad goes first", x.owns(0, 2), BAD);
-        refused(x, "8", 5, 3, 0);
+        counted(x, "8", 5, 3, 0);
     }
 
     private static void leaves() {
@@ -345,7 +298,7 @@ public final class PromisesTest {
         due("9 one may be undone", x.count(8), 1);
         x.years(1);
         due("9 he is lost", x.leaves(1), NO);
-        refused(x, "9", 2, 2, 0);
+        counted(x, "9", 2, 2, 0);
     }
 
     private static void years() {
@@ -371,7 +324,7 @@ public final class PromisesTest {
         due("10 three may be undone", x.count(8), 3);
         due("10 years(60)", x.years(60), 1);
         due("10 the year then", x.count(4), 73);
-        refused(x, "10", 3, 0, 0);
+        counted(x, "10", 3, 0, 0);
     }
 
     private static void yearsAtTheEnd() {
@@ -431,7 +384,7 @@ public final class PromisesTest {
         x.owns(5, 5);
         x.leaves(1);
         due("11 refused ones are not to be undone", x.count(8), 1);
-        refused(x, "11", 1, 3, 0);
+        counted(x, "11", 1, 3, 0);
     }
 
     private static void of() {
@@ -446,7 +399,7 @@ public final class PromisesTest {
         due("12 of(0, -1)", x.of(0, -1), BAD);
         due("12 of(2, 0)", x.of(2, 0), BAD);
         due("12 of(-1, 0)", x.of(-1, 0), BAD);
-        refused(x, "12", 4, 0, 0);
+        counted(x, "12", 4, 0, 0);
     }
 
     private static void about() {
@@ -461,7 +414,7 @@ public final class PromisesTest {
         due("13 about(0, -1)", x.about(0, -1), BAD);
         due("13 about(2, 0)", x.about(2, 0), BAD);
         due("13 about(-1, 0)", x.about(-1, 0), BAD);
-        refused(x, "13", 4, 0, 0);
+        counted(x, "13", 4, 0, 0);
     }
 
     private static int liftOf(int kind, int strength, int age) {
@@ -503,7 +456,7 @@ public final class PromisesTest {
         due("14 lifts(1, -1)", x.lifts(1, -1), BAD);
         due("14 lifts(3, 0)", x.lifts(3, 0), BAD);
         due("14 lifts(-1, 0)", x.lifts(-1, 0), BAD);
-        refused(x, "14", 4, 0, 0);
+        counted(x, "14", 4, 0, 0);
     }
 
     private static void weighs() {
@@ -527,7 +480,7 @@ public final class PromisesTest {
         due("15 weighs(0, -1)", x.weighs(0, -1), BAD);
         due("15 weighs(7, 0)", x.weighs(7, 0), BAD);
         due("15 weighs(-1, 0)", x.weighs(-1, 0), BAD);
-        refused(x, "15", 4, 0, 0);
+        counted(x, "15", 4, 0, 0);
         StoneHeld y = told("people;thing 3 7;years 99;years 99;");
         due("15 wall at 199", y.weighs(0, 1), 32);
         due("15 wall at 200", y.weighs(0, 2), 33);
@@ -562,7 +515,7 @@ public final class PromisesTest {
         due("17 nothing is changed", x.digest(), before);
         due("17 left(-1)", x.left(-1), BAD);
         due("17 left(61)", x.left(61), BAD);
-        refused(x, "17", 2, 0, 0);
+        counted(x, "17", 2, 0, 0);
     }
 
     private static void when() {
@@ -577,7 +530,7 @@ public final class PromisesTest {
         x.years(1);
         due("18 lost already", x.when(3), NONE);
         due("18 a year on", x.when(0), 3);
-        refused(x, "18", 2, 0, 0);
+        counted(x, "18", 2, 0, 0);
         // The wedded one lifts 20, and 40 in every fifth year of his ten; 99 at most.
         StoneHeld y = told("people;thing 0 30;thing 0 30;one 4 1 36;one 4 1 96;own 0 0;own 1 1;");
         due("18 wedded at 45", y.when(0), 10);
@@ -610,7 +563,7 @@ public final class PromisesTest {
         x.years(1);
         due("19 lost", x.lasts(2, 3), NO);
         due("19 bad goes first", x.lasts(2, 5), BAD);
-        refused(x, "19", 4, 1, 0);
+        counted(x, "19", 4, 1, 0);
     }
 
     private static void match() {
@@ -638,7 +591,7 @@ public final class PromisesTest {
         due("20 match(61, -1)", x.match(61, NONE), -10);
         due("20 match(1, -2)", x.match(1, -2), -10);
         due("20 match(1, 4)", x.match(1, 4), -10);
-        refused(x, "20", 4, 0, 0);
+        counted(x, "20", 4, 0, 0);
         // One 0 can be held by 0 and 1, one 1 by 1 alone: all are held, so none is not first.
         StoneHeld y = told("people;thing 0 9;thing 0 5;one 0 4 0;one 0 1 0;one 0 1 0;thing 0 3;");
         due("20 three", y.match(1, NONE), 3);
@@ -665,7 +618,7 @@ public final class PromisesTest {
         due("21 owned ones too", x.light(1), 7);
         due("21 light(0)", x.light(0), BAD);
         due("21 light(61)", x.light(61), BAD);
-        refused(x, "21", 2, 0, 0);
+        counted(x, "21", 2, 0, 0);
         x.one(0, 9, 99);
         due("21 not all can be", x.light(1), NONE);
         x.years(1);
@@ -686,7 +639,7 @@ public final class PromisesTest {
         due("22 two(0, -2)", x.two(0, -2), -10);
         due("22 two(1, 0)", x.two(1, 0), -10);
         due("22 two(-1, -1)", x.two(-1, NONE), -10);
-        refused(x, "22", 3, 0, 0);
+        counted(x, "22", 3, 0, 0);
         x.owns(0, 0);
         x.years(1);
         due("22 the lost don't", x.two(0, NONE), 0);
@@ -712,7 +665,7 @@ public final class PromisesTest {
         due("23 the 6th", x.seen(0, 0, 0, 0), FULL);
         due("23 bad goes first", x.seen(0, 0, 0, 2), BAD);
         due("23 count(5)", x.count(5), 5);
-        refused(x, "23", 9, 0, 1);
+        counted(x, "23", 9, 0, 1);
     }
 
     private static void strong() {
@@ -739,7 +692,7 @@ public final class PromisesTest {
         due("24 strong(0, -1)", x.strong(0, -1), BAD);
         due("24 strong(2, 0)", x.strong(2, 0), BAD);
         due("24 strong(-1, 0)", x.strong(-1, 0), BAD);
-        refused(x, "24", 4, 0, 0);
+        counted(x, "24", 4, 0, 0);
     }
 
     private static void tell() {
@@ -759,7 +712,7 @@ public final class PromisesTest {
         due("25 three lads of ten", x.tell(2), 101);
         due("25 tell(3)", x.tell(3), BAD);
         due("25 tell(-1)", x.tell(-1), BAD);
-        refused(x, "25", 2, 0, 0);
+        counted(x, "25", 2, 0, 0);
     }
 
     private static void note() {
@@ -778,7 +731,7 @@ public final class PromisesTest {
         due("26 the 7th", x.note(0, 1, 0, 0), FULL);
         due("26 bad goes first", x.note(0, 0, 0, 0), BAD);
         due("26 count(6)", x.count(6), 6);
-        refused(x, "26", 9, 0, 1);
+        counted(x, "26", 9, 0, 1);
     }
 
     private static void mark() {
@@ -797,7 +750,7 @@ public final class PromisesTest {
         due("27 the 7th", x.mark(0, 1, 0, 0), FULL);
         due("27 bad goes first", x.mark(0, 0, 0, 0), BAD);
         due("27 count(7)", x.count(7), 6);
-        refused(x, "27", 9, 0, 1);
+        counted(x, "27", 9, 0, 1);
     }
 
     private static void forget() {
@@ -819,7 +772,7 @@ public final class PromisesTest {
         due("28 forget(0) again", x.forget(0), 0);
         due("28 forget(3)", x.forget(3), BAD);
         due("28 forget(-1)", x.forget(-1), BAD);
-        refused(x, "28", 2, 0, 0);
+        counted(x, "28", 2, 0, 0);
     }
 
     private static void is() {
@@ -844,7 +797,7 @@ public final class PromisesTest {
         due("29 a wall", x.is(1), 8);
         due("29 is(2)", x.is(2), BAD);
         due("29 is(-1)", x.is(-1), BAD);
-        refused(x, "29", 2, 0, 0);
+        counted(x, "29", 2, 0, 0);
     }
 
     private static void look() {
@@ -863,7 +816,7 @@ public final class PromisesTest {
         due("30 trunk, self or sister", x.look(1), 1);
         due("30 look(2)", x.look(2), BAD);
         due("30 look(-1)", x.look(-1), BAD);
-        refused(x, "30", 2, 0, 0);
+        counted(x, "30", 2, 0, 0);
     }
 
     private static void kinds() {
@@ -889,7 +842,7 @@ public final class PromisesTest {
         due("31 an old one", x.kinds(0), 32);
         due("31 kinds(2)", x.kinds(2), BAD);
         due("31 kinds(-1)", x.kinds(-1), BAD);
-        refused(x, "31", 2, 0, 0);
+        counted(x, "31", 2, 0, 0);
     }
 
     private static void ask() {
@@ -908,7 +861,7 @@ public final class PromisesTest {
         due("32 no kind", x.ask(0), NONE);
         due("32 ask(2)", x.ask(2), BAD);
         due("32 ask(-1)", x.ask(-1), BAD);
-        refused(x, "32", 2, 0, 0);
+        counted(x, "32", 2, 0, 0);
         // Of strength 6, aged 0, a plain one, a weak and an old one, a lad: 12, 20, 6, 6, 20, 6.
         StoneHeld y = told("people;one 0 6 0;");
         due("32 three alike at 0", y.ask(0), 3);
@@ -931,7 +884,7 @@ public final class PromisesTest {
         due("33 tries(0, 1, -1)", x.tries(0, 1, -1), BAD);
         x.years(1);
         due("33 the lost, too", x.tries(0, 1, 1), 9);
-        refused(x, "33", 6, 0, 0);
+        counted(x, "33", 6, 0, 0);
     }
 
     private static void fraction(StoneHeld x, String what, long above, long below) {
@@ -975,7 +928,7 @@ public final class PromisesTest {
         due("34 lost", y.shout(0, 0, 0), NO);
         due("34 bad goes first", y.shout(0, 7, 0), BAD);
         fraction(y, "34 as it was", 1, 64);
-        refused(y, "34", 7, 1, 0);
+        counted(y, "34", 7, 1, 0);
         // A self of 6: 3, and 12 when odd; he lifts 2 and holds on without a shout when even.
         StoneHeld z = told("people;thing 4 6;one 0 1 0;own 0 0;");
         z.shout(0, 2, 2);
@@ -1004,7 +957,7 @@ public final class PromisesTest {
         due("35 seed 1000000", x.centuries(1000000, 0), BAD);
         due("35 years -1", x.centuries(0, -1), BAD);
         due("35 years 61", x.centuries(0, 61), BAD);
-        refused(x, "35", 4, 0, 0);
+        counted(x, "35", 4, 0, 0);
         // From seed 0: X is 12345, 12345 by 65536 is 0: one 0 gets thing 0, and no other one anything.
         StoneHeld y = told("people;thing 0 30;one 0 1 0;");
         due("35 one 0 gets thing 0", y.centuries(0, 1), 1);
@@ -1029,7 +982,7 @@ public final class PromisesTest {
         fraction(x, "36 lowest terms", 4, 5);
         due("36 part(2)", x.part(2), BAD);
         due("36 part(-1)", x.part(-1), BAD);
-        refused(x, "36", 2, 0, 0);
+        counted(x, "36", 2, 0, 0);
     }
 
     private static void image() {
@@ -1050,7 +1003,7 @@ public final class PromisesTest {
         x.people();
         x.from(0);
         due("37 kept anew", x.count(0), 1);
-        refused(x, "37", 2, 1, 0);
+        counted(x, "37", 2, 1, 0);
     }
 
     private static void from() {
@@ -1089,31 +1042,31 @@ public final class PromisesTest {
         due("38 from(1)", x.from(1), NO);
         due("38 from(2)", x.from(2), BAD);
         due("38 from(-1)", x.from(-1), BAD);
-        refused(x, "38", 2, 2, 0);
+        counted(x, "38", 2, 2, 0);
     }
 
     private static void status() {
         StoneHeld x = new StoneHeld();
-        refused(x, "39 at first", 0, 0, 0);
+        counted(x, "39 at first", 0, 0, 0);
         x.undo();
         x.undo();
         x.thing(9, 9);
         for (int k = 0; k < 10; k++) {
             x.thing(0, 1);
         }
-        refused(x, "39", 1, 2, 3);
+        counted(x, "39", 1, 2, 3);
         due("39 status(3)", x.status(3), -1);
         due("39 status(-1)", x.status(-1), -1);
-        refused(x, "39 another what counts as bad", 3, 2, 3);
+        counted(x, "39 another what counts as bad", 3, 2, 3);
         x.match(0, 0);
         x.two(9, 0);
-        refused(x, "39 -10 counts as bad", 5, 2, 3);
+        counted(x, "39 -10 counts as bad", 5, 2, 3);
         x.two(0, 0);
         x.strong(0, 0);
         x.read();
-        refused(x, "39 -5 and faults do not count", 6, 2, 3);
+        counted(x, "39 -5 and faults do not count", 6, 2, 3);
         x.people();
-        refused(x, "39 it stays", 6, 2, 3);
+        counted(x, "39 it stays", 6, 2, 3);
     }
 
     private static void count() {
@@ -1133,7 +1086,7 @@ public final class PromisesTest {
         }
         due("40 count(10)", x.count(10), BAD);
         due("40 count(-1)", x.count(-1), BAD);
-        refused(x, "40", 2, 0, 0);
+        counted(x, "40", 2, 0, 0);
     }
 
     private static void digest() {
