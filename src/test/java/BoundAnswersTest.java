@@ -347,6 +347,12 @@ public final class BoundAnswersTest extends Checks {
         due("who needs it", y.match(1, 1), 0);
         due("for four none but the first: none first", y.match(4, 0), NONE);
         due("for four", y.match(4, 1), 0);
+        StoneHeld z = told("people;thing 0 1;thing 0 1;thing 0 1;thing 0 30;thing 0 1;thing 0 20;thing 0 3;"
+                + "one 0 9 0;one 0 1 0;one 0 9 30;");
+        due("all three", z.match(1, NONE), 3);
+        due("18: the heaviest is the last one's", z.match(1, 0), 5);
+        due("2: what is left", z.match(1, 1), 6);
+        due("28: by 30 alone", z.match(1, 2), 3);
     }
 
     private static void lightest() {
@@ -406,6 +412,25 @@ public final class BoundAnswersTest extends Checks {
             x.thing(0, weight);
             due("2, 4, 6 at " + weight, x.two(0, NONE), pairs[weight - 1]);
         }
+        // They lift 6, 4 and 2.
+        for (int weight = 1; weight <= 11; weight++) {
+            StoneHeld x = told("people;one 0 3 0;one 0 2 0;one 0 1 0;");
+            x.thing(0, weight);
+            due("6, 4, 2 at " + weight, x.two(0, NONE), pairs[weight - 1]);
+        }
+        // Aged 2 he lifts 2, aged 3 he lifts 3.
+        int[] ages = {0, 0, 0, 1, 1, 0};
+        for (int weight = 1; weight <= 6; weight++) {
+            for (String text : new String[] {"people;one 0 1 2;one 0 1 3;", "people;one 0 1 3;one 0 1 2;"}) {
+                StoneHeld x = told(text);
+                x.thing(0, weight);
+                due(text + " at " + weight, x.two(0, NONE), ages[weight - 1]);
+            }
+        }
+        StoneHeld self = told("people;one 0 1 2;one 0 1 3;thing 4 8;");
+        due("a self in an even year: 4", self.two(0, NONE), 1);
+        StoneHeld odd = told("people;years 1;one 0 3 0;one 0 4 0;thing 4 8;");
+        due("a self in an odd year: 13", odd.two(0, NONE), 1);
         says("(i less than j; HERE)");
         StoneHeld x = told("people;thing 0 30;thing 0 4;one 0 1 0;one 0 1 0;one 0 1 0;own 0 0;");
         due("three pairs", x.two(1, NONE), 3);
@@ -594,6 +619,23 @@ public final class BoundAnswersTest extends Checks {
         due("trunk or self part in year 1", x.look(0), 1);
         due("look(1)", x.look(1), BAD);
         due("look(-1)", x.look(-1), BAD);
+        StoneHeld after = new StoneHeld();
+        for (int weight = 1; weight <= 7; weight++) {
+            after.thing(0, weight);
+            after.one(weight % 6, weight, 10 * weight);
+        }
+        for (int k = 0; k < 7; k++) {
+            int told = after.tell(k);
+            int asked = after.ask(k);
+            for (int t = 0; t < 7; t++) {
+                after.tell(k);
+                due("look(" + t + ") behind tell(" + k + ")", after.look(t), due[t]);
+                after.ask(k);
+                due("look(" + t + ") behind ask(" + k + ")", after.look(t), due[t]);
+            }
+            due("tell(" + k + ") behind looks", after.tell(k), told);
+            due("ask(" + k + ") behind looks", after.ask(k), asked);
+        }
     }
 
     private static void kindsMarked() {
@@ -689,6 +731,14 @@ public final class BoundAnswersTest extends Checks {
         due("1 in an even year", self.tries(0, 1, 0), 8);
         self.years(1);
         due("10 in an odd one", self.tries(0, 1, 0), 1);
+        // Aged 2 he lifts 2, aged 3 he lifts 3; the lad lifts nothing.
+        StoneHeld ages = told("people;one 0 1 2;one 0 1 3;one 3 1 0;thing 0 3;thing 0 2;thing 0 5;thing 0 6;");
+        due("2 and nothing at 3", ages.tries(0, 2, 0), 1);
+        due("nothing and 2 at 3", ages.tries(2, 0, 0), 1);
+        due("3 and nothing at 3", ages.tries(1, 2, 0), 8);
+        due("nothing and 3 at 3", ages.tries(2, 1, 0), 8);
+        due("2 and 3 at 5", ages.tries(0, 1, 2), 9);
+        due("2 and 3 at 6", ages.tries(0, 1, 3), 1);
     }
 
     private static void chance(int weight, int n, int c, long above, long below) {
@@ -797,8 +847,9 @@ public final class BoundAnswersTest extends Checks {
     private static void centuriesBySeed() {
         says("CENTURIES by a SEED (0 .. 999999)");
         // The first X of a seed, and whom and what it names: worked out apart from the program.
+        // From 241 on they are such whose X lies just at a whole number of 65536 or of 1048576.
         int[][] seeds = {{0, 0, 0}, {1, 3, 2}, {2, 5, 0}, {52, 6, 6}, {70, 0, 6}, {72, 6, 0}, {999998, 6, 2},
-            {999999, 2, 4}};
+            {999999, 2, 4}, {241, 2, 1}, {959, 4, 5}, {42627, 1, 5}, {47902, 2, 5}};
         for (int[] seed : seeds) {
             String what = "seed " + seed[0];
             for (int i = 0; i < 7; i++) {

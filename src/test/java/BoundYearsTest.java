@@ -26,6 +26,7 @@ public final class BoundYearsTest extends Checks {
         imageNumbers();
         imagesApart();
         imagesOfTheEmptyAndTheFull();
+        imagesOfOtherRows();
         imagesKeepWhatMayBeUndone();
         imagesLeaveTheRest();
         rowsFull();
@@ -614,6 +615,44 @@ public final class BoundYearsTest extends Checks {
         due("full", full.seen(0, 0, 0, 0), FULL);
         due("full", full.note(0, 1, 0, 0), FULL);
         due("full", full.mark(0, 1, 0, 0), FULL);
+    }
+
+    /** Things, people and rows, as many as may be, that are unlike in every number. */
+    private static void fillAnew(StoneHeld x, int shift) {
+        x.people();
+        for (int k = 0; k < 7; k++) {
+            x.thing((k + shift) % 6, 1 + k + shift);
+            x.one((k + shift + 1) % 6, 1 + (k + shift) % 9, 10 + k + 10 * shift);
+        }
+        for (int k = 0; k < 6; k++) {
+            x.seen((k + shift) % 7, k + shift, k + 2 * shift, (k + shift) % 2);
+            x.note((k + shift) % 7, 1 + k + shift, k + 2 * shift, k + 3 * shift);
+            x.mark((k + shift) % 7, 1 + (k + shift) % 9, k + 2 * shift, k + 3 * shift);
+        }
+        x.owns(shift, shift);
+    }
+
+    private static void imagesOfOtherRows() {
+        says("IMAGES 0, 1 keep all but them");
+        StoneHeld x = new StoneHeld();
+        fillAnew(x, 1);
+        long first = x.digest();
+        due("image(0)", x.image(0), 1);
+        fillAnew(x, 2);
+        long second = x.digest();
+        due("image(1)", x.image(1), 1);
+        holds("unlike", first != second);
+        fillAnew(x, 3);
+        for (int k = 0; k < 3; k++) {
+            due("from(0)", x.from(0), 1);
+            due("the first", x.digest(), first);
+            due("from(1)", x.from(1), 1);
+            due("the second", x.digest(), second);
+        }
+        due("image(0) anew", x.image(0), 1);
+        fillAnew(x, 4);
+        due("from(0)", x.from(0), 1);
+        due("the second", x.digest(), second);
     }
 
     private static void imagesKeepWhatMayBeUndone() {
